@@ -233,7 +233,7 @@ public final class PositHouse {
         } else if (brief) {
             page.putShort(left, patterns[p], widths[p]);
         } else {
-            page.putExact(left);
+            page.putFull(left);
         }
         return page.count;
     }
@@ -976,7 +976,7 @@ public final class PositHouse {
         }
 
         /** With m / 2^f = m 5^f / 10^f the digits are those of a whole number; they come from the last one on. */
-        void putExact(Posit value) {
+        void putFull(Posit value) {
             count = 0;
             int behind = Math.max(0, -value.exponent);
             rest.put(value.significand);
