@@ -242,6 +242,7 @@ public final class PromisesTest {
         due("19 / 16, a tie", ratioOf(19, 16, 8), 0x42);
         due("above a tie", ratioOf(17L << 50 | 1, 16L << 50, 8), 0x41);
         due("below a tie", ratioOf((17L << 50) - 1, 16L << 50, 8), 0x40);
+        due("a last bit above a tie", ratioOf((17L << 27) + 1, 1L << 31, 8), 0x41);
         for (int none : NO_PLACE) {
             refuses("ratio at none", INDEX, h -> h.ratio(none, 1, 0));
         }
@@ -705,6 +706,16 @@ public final class PromisesTest {
         x.gather(2, 5, 5, true);
         x.settle(2, 3);
         due("settle -2^240", x.pattern(3), 0x81);
+        x.clear(2);
+        x.set(5, 32, 1);
+        x.ratio(6, 2, 1);
+        x.set(3, 3, 0);
+        x.gather(2, 6, 6, false);
+        x.settle(2, 3);
+        due("settle a bound", x.pattern(3), 2);
+        x.gather(2, 5, 5, false);
+        x.settle(2, 3);
+        due("settle a bound and 2^-240", x.pattern(3), 3);
         for (int none : NO_PLACE) {
             refuses("settle to none", INDEX, h -> h.settle(0, none));
         }
