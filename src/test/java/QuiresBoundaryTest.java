@@ -224,6 +224,30 @@ public final class QuiresBoundaryTest {
         return x.pattern(9);
     }
 
+    /** Place 9, of width n, becomes 2^top and, or less, 2^e; of width n 2^top is the bound below the greatest. */
+    private static long powersSettled(int n, int top, int e, boolean minus) {
+        PositHouse x = Houses.of(32, Houses.ONE);
+        int half = Math.floorDiv(e, 2);
+        putPower(x, 1, top);
+        putPower(x, 2, half);
+        putPower(x, 3, e - half);
+        x.gather(0, 0, 1, false);
+        x.set(9, n, 0);
+        x.settle(0, 9);
+        Sentences.due("the bound itself", x.pattern(9), (1L << (n - 1)) - 2);
+        x.gather(0, 2, 3, minus);
+        x.settle(0, 9);
+        return x.pattern(9);
+    }
+
+    /** 2^e, for e from -108 to 108: both bits of E are there. */
+    private static void putPower(PositHouse x, int p, int e) {
+        int r = Math.floorDiv(e, 4);
+        long run = r >= 0 ? (1L << (r + 2)) - 2 : 1;
+        int bits = r >= 0 ? r + 2 : 1 - r;
+        x.set(p, 32, (int) ((run << 2 | Math.floorMod(e, 4)) << (29 - bits)));
+    }
+
     private static void settle() {
         String rule = "Place r becomes what quire k holds.";
         Sentences.test("P22", rule, () -> {
@@ -251,6 +275,16 @@ public final class QuiresBoundaryTest {
                 Sentences.due("NaR", settled(n, Houses.NAR, 1), most + 1);
                 Sentences.due("1", settled(n, Houses.ONE, 0), 1L << (n - 2));
                 Sentences.due("1 + 2^-240", settled(n, Houses.ONE, 1), 1L << (n - 2));
+            }
+        });
+        Sentences.test("P22", rule, () -> {
+            for (int n = 3; n < 30; n++) {
+                int top = 4 * (n - 3) + 2;
+                long most = (1L << (n - 1)) - 1;
+                for (int e = -216; e < top; e++) {
+                    Sentences.due("2^" + top + " and 2^" + e, powersSettled(n, top, e, false), most);
+                    Sentences.due("2^" + top + " less 2^" + e, powersSettled(n, top, e, true), most - 1);
+                }
             }
         });
         Sentences.test("P22", rule, () -> {

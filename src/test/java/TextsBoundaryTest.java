@@ -146,17 +146,15 @@ public final class TextsBoundaryTest {
             gives("3.009265538105056020399965535288948935215783825336544055063e-36", 32, 2);
         });
         Sentences.test("P25", "-1 less the place that is WRONG (and r stays).", () -> {
-            PositHouse x = new PositHouse();
-            x.set(31, 5, 9);
-            String text = "-" + "1".repeat(59) + ".1e-123";
-            for (int at = 0; at < text.length(); at++) {
-                Houses.say(x, text.substring(0, at) + "x");
+            String longest = "-" + "1".repeat(59) + ".1e-123";
+            for (int at = 0; at <= longest.length(); at++) {
+                PositHouse x = new PositHouse();
+                x.set(31, 5, 9);
+                Houses.say(x, longest.substring(0, at) + "x");
                 Sentences.due("WRONG at " + at, x.read(31), -1 - at);
                 Sentences.due("pattern after it", x.pattern(31), 9);
                 Sentences.due("width after it", x.width(31), 5);
             }
-            Houses.say(x, text + "x");
-            Sentences.due("WRONG behind the longest", x.read(31), -1 - text.length());
         });
         Sentences.test("P25", "-1 less the place that is WRONG (and r stays).", () -> {
             PositHouse x = new PositHouse();
