@@ -6,33 +6,32 @@ import java.lang.reflect.Modifier;
 import java.nio.file.Files;
 import java.nio.file.Path;
 import java.util.Arrays;
-import java.util.HashSet;
 import java.util.List;
 import java.util.Set;
 import java.util.TreeSet;
+import java.util.regex.Matcher;
+import java.util.regex.Pattern;
 
 /** The face of the class, and those rules of LANGUAGE.md that a machine can look at. */
 public final class FaceTest {
-    private static final List<String> FACE = List.of(
-        "void set(int,int,int) Index Argument", "long pattern(int) Index", "int width(int) Index",
-        "void take(int,int,int) Index Argument", "void ratio(int,long,long) Index",
-        "long whole(int) Index Arithmetic", "int order(int,int) Index", "void add(int,int,int) Index",
-        "void less(int,int,int) Index", "void times(int,int,int) Index", "void over(int,int,int) Index",
-        "void fused(int,int,int) Index", "void root(int,int,int) Index Argument", "void under(int,int) Index",
-        "void far(int,int,int) Index", "void power(int,int,int) Index Argument",
-        "void turn(int,int) Index Argument", "void clear(int) Index", "void gather(int,int,int,boolean) Index",
-        "void dot(int,int,int,int) Index Argument", "void settle(int,int) Index",
-        "int image(int,int) Index Argument", "int feed(long,int) Argument", "int read(int) Index",
-        "int write(int,boolean) Index", "int letter(int)");
+    private static final Path DOCUMENT = Path.of("../shared/DOC.md");
+    private static final Path SOURCE = Path.of("src/main/java/PositHouse.java");
+    private static final int CALLS = 26;
     private static final List<String> WORDS_LEFT_OUT = List.of("import ", "catch", "finally", "synchronized",
         "assert", "->", "::", "Exact(", "double", "float", "BigInteger");
 
+    private static final Set<String> FACE = new TreeSet<>();
+    private static final Set<String> NAMES = new TreeSet<>();
     private static int wrong = 0;
 
     public static void main(String[] args) throws IOException {
+        String document = Files.readString(DOCUMENT);
+        String source = Files.readString(SOURCE);
+        learnFace(document);
         face();
         members();
-        source();
+        parts(document, source);
+        source(source);
         System.out.println(wrong == 0 ? "the face is the document's" : wrong + " faults");
         System.exit(wrong == 0 ? 0 : 1);
     }
@@ -42,6 +41,19 @@ public final class FaceTest {
         System.out.println(what);
     }
 
+    private static void learnFace(String document) {
+        Matcher calls = Pattern.compile("(?m)^    public (\\w+) (\\w+)\\(([^)]*)\\)( throws [^;]+)?;$").matcher(document);
+        while (calls.find()) {
+            String types = calls.group(3).replaceAll(" \\w+(,|$)", "$1").replace(" ", "");
+            String thrown = calls.group(4) == null ? "" : calls.group(4).replace(" throws ", " ").replace(",", "");
+            FACE.add(calls.group(1) + " " + calls.group(2) + "(" + types + ")" + thrown);
+            NAMES.add(calls.group(2));
+        }
+        if (FACE.size() != CALLS || NAMES.size() != CALLS) {
+            fault("the document's face was not understood: " + FACE);
+        }
+    }
+
     private static String told(Method m) {
         StringBuilder text = new StringBuilder(m.getReturnType() + " " + m.getName() + "(");
         for (int i = 0; i < m.getParameterCount(); i++) {
@@ -49,9 +61,7 @@ public final class FaceTest {
         }
         text.append(")");
         for (Class<?> e : m.getExceptionTypes()) {
-            text.append(e == IndexOutOfBoundsException.class ? " Index"
-                : e == IllegalArgumentException.class ? " Argument"
-                : e == ArithmeticException.class ? " Arithmetic" : " " + e.getName());
+            text.append(" ").append(e.getSimpleName());
         }
         return text.toString();
     }
@@ -67,7 +77,7 @@ public final class FaceTest {
                 found.add(told(m));
             }
         }
-        if (!found.equals(new TreeSet<>(FACE))) {
+        if (!found.equals(FACE)) {
             fault("the public methods are " + found);
         }
         Constructor<?>[] makers = PositHouse.class.getDeclaredConstructors();
@@ -77,10 +87,6 @@ public final class FaceTest {
     }
 
     private static void members() {
-        Set<String> names = new HashSet<>();
-        for (String one : FACE) {
-            names.add(one.substring(one.indexOf(' ') + 1, one.indexOf('(')));
-        }
         for (Field f : PositHouse.class.getDeclaredFields()) {
             if (!Modifier.isPrivate(f.getModifiers())) {
                 fault("the field " + f + " isn't private");
@@ -91,7 +97,7 @@ public final class FaceTest {
                 fault("the class " + inside + " isn't static, or is public");
             }
             for (Method m : inside.getDeclaredMethods()) {
-                if (names.contains(m.getName()) || m.getParameterCount() > 7) {
+                if (NAMES.contains(m.getName()) || m.getParameterCount() > 7) {
                     fault("the method " + m + " bears a public name or has too many parameters");
                 }
             }
@@ -106,8 +112,30 @@ public final class FaceTest {
         }
     }
 
-    private static void source() throws IOException {
-        String text = Files.readString(Path.of("src/main/java/PositHouse.java"));
+    /** The calls stand behind the document's headings, in its order. */
+    private static void parts(String document, String source) {
+        Matcher told = Pattern.compile("(?m)^Ahead of the calls (.*) the interface says: ---- (\\w+)\\.$").matcher(document);
+        int count = 0;
+        while (told.find()) {
+            count++;
+            int from = source.indexOf("    // ---- " + told.group(2) + "\n");
+            int to = source.indexOf("    // ---- ", from + 1);
+            Matcher calls = Pattern.compile("(?m)^    public \\w+ (\\w+)\\(").matcher(
+                from < 0 || to < 0 ? "" : source.substring(from, to));
+            StringBuilder names = new StringBuilder();
+            while (calls.find()) {
+                names.append(names.length() == 0 ? "`" : ", `").append(calls.group(1)).append("`");
+            }
+            if (!names.toString().equals(told.group(1))) {
+                fault("behind ---- " + told.group(2) + " stand " + names);
+            }
+        }
+        if (count != 4) {
+            fault("the document has " + count + " headings of calls");
+        }
+    }
+
+    private static void source(String text) {
         for (String word : WORDS_LEFT_OUT) {
             if (text.contains(word)) {
                 fault("the source has " + word);
